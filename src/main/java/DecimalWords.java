@@ -10,7 +10,7 @@ public final class DecimalWords {
     private static final int LEAST_FULL_POWER = -383;
     private static final long COEFFICIENT_LIMIT = 10000000000000000L;
     private static final long LEAST_FULL_COEFFICIENT = 1000000000000000L;
-    private static final long HALF_WORD = 100000000L;
+    private static final long EIGHT_DIGITS = 100000000L;
 
     private static final int ADD = 0;
     private static final int SUBTRACT = 1;
@@ -236,6 +236,7 @@ public final class DecimalWords {
                     result.setFinite(minus, 0, LEAST_EXPONENT);
                 }
                 break;
+            case QUANTIZE:
             default:
                 if (both) {
                     result.take(a);
@@ -271,6 +272,7 @@ public final class DecimalWords {
             case DIVIDE:
                 divide(a, b);
                 break;
+            case QUANTIZE:
             default:
                 quantize(a, b.exponent);
                 break;
@@ -433,6 +435,7 @@ public final class DecimalWords {
             case LOWER:
                 up = outcome.rest != NO_REST && minus;
                 break;
+            case CUT:
             default:
                 up = false;
                 break;
@@ -474,7 +477,7 @@ public final class DecimalWords {
         return a < b ? -1 : 1;
     }
 
-    /** 10^n; n is 0 .. 16 wherever this is called, and held there so that no index is ever wrong. */
+    /** 10^n. All callers give 0 .. 16; n is held there so that no index can be wrong. */
     private static long tenTo(int n) {
         return TENS[Math.max(0, Math.min(n, DIGITS))];
     }
@@ -563,7 +566,6 @@ public final class DecimalWords {
             low = a.coefficient;
             power = a.exponent;
             more = false;
-            wish = power;
         }
 
         void setSum(Datum a, Datum b, boolean minusOfB, boolean zeroIsMinus) {
@@ -625,14 +627,14 @@ public final class DecimalWords {
         }
 
         void setProduct(Datum a, Datum b) {
-            long highOfA = a.coefficient / HALF_WORD;
-            long lowOfA = a.coefficient % HALF_WORD;
-            long highOfB = b.coefficient / HALF_WORD;
-            long lowOfB = b.coefficient % HALF_WORD;
+            long highOfA = a.coefficient / EIGHT_DIGITS;
+            long lowOfA = a.coefficient % EIGHT_DIGITS;
+            long highOfB = b.coefficient / EIGHT_DIGITS;
+            long lowOfB = b.coefficient % EIGHT_DIGITS;
             long middle = highOfA * lowOfB + lowOfA * highOfB;
             minus = a.minus != b.minus;
-            high = highOfA * highOfB + middle / HALF_WORD;
-            low = middle % HALF_WORD * HALF_WORD;
+            high = highOfA * highOfB + middle / EIGHT_DIGITS;
+            low = middle % EIGHT_DIGITS * EIGHT_DIGITS;
             addToLow(lowOfA * lowOfB);
             power = a.exponent + b.exponent;
             more = false;

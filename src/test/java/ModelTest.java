@@ -23,6 +23,7 @@ public final class ModelTest {
             test.run(run);
         }
         test.groups();
+        test.edges();
         CHECK.end();
     }
 
@@ -236,5 +237,72 @@ public final class ModelTest {
                 call("pack", 0, 1, 0, 0);
             }
         }
+    }
+
+    /** Numbers at the edges of digits and halves, with exponents that bring results to every edge. */
+    private void edges() {
+        long[] sizes = {
+            0, 1, 2, 3, 5, 7, 9, 10, 49, 50, 51, 99, TENS[8], TENS[8] - 1, TENS[15] - 1, TENS[15],
+            TENS[15] + 1, 5 * TENS[15] - 1, 5 * TENS[15], 5 * TENS[15] + 1, 5 * TENS[14] - 1,
+            TENS[16] - 2, TENS[16] - 1, 1234567890123456L
+        };
+        for (int mode = 0; mode < 5; mode++) {
+            for (long a : sizes) {
+                for (long b : sizes) {
+                    seed = a * 31 + b + mode;
+                    edgeSums(mode, a, b);
+                    edgeProducts(mode, a, b);
+                }
+                for (int q = 0; q < 20; q++) {
+                    edge(mode, 6, a, q - 398, 0, 0);
+                    edge(mode, 6, a, 369 - q, 0, 0);
+                }
+            }
+        }
+    }
+
+    private void edgeSums(int mode, long a, long b) {
+        for (int gap = 0; gap < 36; gap++) {
+            int q = below(700) - 398;
+            edge(mode, below(2), a, Math.min(369, q + gap), b, q);
+            edge(mode, below(2), a, q, b, Math.min(369, q + gap));
+        }
+        edge(mode, below(2), a, 369, b, 369 - below(20));
+        edge(mode, 4, a, below(2) == 0 ? 5 : -390, b, below(40) - 398);
+        edge(mode, 4, a, below(20), b, below(40) - 5);
+    }
+
+    private void edgeProducts(int mode, long a, long b) {
+        for (int i = 0; i < 20; i++) {
+            int small = -432 + below(50);
+            int great = 340 + below(34);
+            int q = below(300) - 150;
+            edge(mode, 2, a, small / 2 + i, b, small - small / 2 - i);
+            edge(mode, 2, a, great - q, b, q);
+            edge(mode, 3, a, small / 2 + i, b, i - small + small / 2);
+            edge(mode, 3, a, Math.min(369, great - 150), b, 150 - below(180));
+        }
+    }
+
+    private void edge(int mode, int operation, long a, int qa, long b, int qb) {
+        if (qa < -398 || qa > 369 || qb < -398 || qb > 369) {
+            return;
+        }
+        program = new DecimalWords();
+        model = new Model();
+        story = new StringBuilder("edges: ");
+        place(0, below(2) == 0, a, qa);
+        place(1, below(2) == 0, b, qb);
+        call("mode", mode, 0, 0, 0);
+        call("apply", operation, 2, 0, 1);
+        look(2);
+        call("compare", 0, 1, 0, 0);
+        CHECK.due(story + "flags()", program.flags(), model.flags());
+    }
+
+    private void place(int r, boolean minus, long c, int q) {
+        story.append("put(" + r + ", " + minus + ", " + c + "L, " + q + "); ");
+        program.put(r, minus, c, q);
+        model.put(r, minus, c, q);
     }
 }

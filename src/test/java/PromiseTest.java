@@ -186,6 +186,9 @@ public final class PromiseTest {
         dueOf(x, SUBTRACT, false, FULL, 2, 16);
         // What is far below half a unit, or not, still tells which side of the half it is.
         dueOf(two(false, FULL, 0, false, 5, -1), ADD, false, FULL, 0, 16);
+        dueOf(two(false, FULL, 0, false, 4999999999999999L, -17), SUBTRACT, false, FULL, 0, 16);
+        dueOf(two(false, FULL, 0, false, 5 * FULL, -17), SUBTRACT, false, FULL, 0, 16);
+        dueOf(two(false, FULL, 0, false, 5 * FULL + 1, -17), SUBTRACT, false, NINES, -1, 16);
         DecimalWords y = two(false, NINES - 4, 30, false, 5, 29);
         y.apply(ADD, 3, 0, 1);
         y.put(4, false, 1, -300);
@@ -324,6 +327,8 @@ public final class PromiseTest {
     private static void tooSmall() {
         dueOf(two(false, 1, -398, false, 5, -1), MULTIPLY, false, 0, -398, 24);
         dueOf(two(true, 3, -398, false, 5, -1), MULTIPLY, true, 2, -398, 24);
+        dueOf(two(false, NINES, -215, false, NINES, -215), MULTIPLY, false, 1, -398, 24);
+        dueOf(two(false, NINES, -216, false, NINES, -215), MULTIPLY, false, 0, -398, 24);
         // Exact below 10^-383: no flag.
         dueOf(two(false, 10, -398, false, 5, -1), MULTIPLY, false, 5, -398, 0);
         // From below 10^-383 rounded up to it: the flag; from 10^-383 on: none.
