@@ -270,7 +270,12 @@ public final class DecimalWords {
                 fit();
                 break;
             case DIVIDE:
-                divide(a, b);
+                if (b.isZero()) {
+                    divideByZero(a, b);
+                } else {
+                    outcome.setQuotient(a, b);
+                    fit();
+                }
                 break;
             case QUANTIZE:
             default:
@@ -279,11 +284,8 @@ public final class DecimalWords {
         }
     }
 
-    private void divide(Datum a, Datum b) {
-        if (!b.isZero()) {
-            outcome.setQuotient(a, b);
-            fit();
-        } else if (a.isZero()) {
+    private void divideByZero(Datum a, Datum b) {
+        if (a.isZero()) {
             setInvalid();
         } else {
             raise(BY_ZERO);
@@ -479,15 +481,19 @@ public final class DecimalWords {
 
     /** 10^n. All callers give 0 .. 16; n is held there so that no index can be wrong. */
     private static long tenTo(int n) {
-        return TENS[Math.max(0, Math.min(n, DIGITS))];
+        if (n < 0) {
+            return 1;
+        }
+        return TENS[n < DIGITS ? n : DIGITS];
     }
 
     private static int digitsOf(long c) {
-        int n = 0;
-        while (n < DIGITS && c >= TENS[n]) {
-            n++;
+        for (int n = 0; n < DIGITS; n++) {
+            if (c < TENS[n]) {
+                return n;
+            }
         }
-        return n;
+        return DIGITS;
     }
 
     /** What a register holds. What is not finite has the coefficient and exponent 0. */
